@@ -146,7 +146,7 @@ public final class MainsLetters {
             case 8: return wire.hiddenTwos();
             case 9: return networks.howMany();
             case 10: return wire.unheard();
-            default: return isWithin(what, 0, 6) ? contention.tellOfAll(what) : OUTSIDE;
+            default: return contention.tellOfAll(what);
         }
     }
 
@@ -410,9 +410,8 @@ public final class MainsLetters {
         boolean findBest(int a, int b, int n) {
             weighSteps(n);
             measureTo(b);
-            bestStations = 0;
-            bestSymbols = distances[a] / STEP;
             if (distances[a] >= FAR) return false;
+            bestSymbols = distances[a] / STEP;
             follow(a, b);
             return true;
         }
@@ -543,8 +542,12 @@ public final class MainsLetters {
         int passSlots(int n) {
             int before = arrived;
             slots += n;
-            for (int i = 0; i < n && inPhase(EMPTY) != Sets.of(STATIONS) - 1; i++) passSlot();
+            for (int i = 0; i < n && withLetters() != 0; i++) passSlot();
             return arrived - before;
+        }
+
+        private int withLetters() {
+            return inPhase(WAITING) | inPhase(SENDING);
         }
 
         private void passSlot() {
@@ -692,7 +695,7 @@ public final class MainsLetters {
 
         int tellOfAll(int what) {
             switch (what) {
-                case 0: return Integer.bitCount(inPhase(WAITING) | inPhase(SENDING));
+                case 0: return Integer.bitCount(withLetters());
                 case 1: return Integer.bitCount(inPhase(WAITING));
                 case 2: return Integer.bitCount(inPhase(SENDING));
                 case 3: return slots;

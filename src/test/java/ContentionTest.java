@@ -304,6 +304,18 @@ public final class ContentionTest {
         x.pass(1);
         told("5 is held by sending, and does not defer", x, 5, 1, 4, 0, 40, 2, 20, 3, N, N, 0, 0, 0);
 
+        // A count of 1 becomes 0 by a defer: 1 is held by class, its defer is 1.
+        MainsLetters z = new MainsLetters();
+        z.seed(Due.seedThatDraws(8, 0, 8, 0, 16, 15, 16, 1));
+        z.write(0, 2, 0, 40);
+        z.write(1, 2, 0, 40);
+        z.pass(1);
+        z.seed(Due.seedThatDraws(8, 0));
+        z.write(3, 4, 1, 40);
+        z.pass(1);
+        due.is("count by a defer while held", z.ofStation(1, 6), 0);
+        due.is("count by a defer while held", z.ofStation(0, 6), 14);
+
         // A count of 0 stays 0 by a defer: 1 is held, its count is 0, it has a defer of 1.
         MainsLetters y = new MainsLetters();
         y.seed(Due.seedThatDraws(8, 0, 8, 0, 16, 0, 16, 0));

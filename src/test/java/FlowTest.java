@@ -41,6 +41,9 @@ public final class FlowTest {
         // a frame takes the first ones that are not answered: 0 and 2 behind 0 and 1
         seed = Due.seedThatDraws(10, 0, 10, 9, 10, 9, 10, 9, 10, 9, 10, 9);
         asTold(x, new int[] {3, 2, 1, 1, seed}, 2, 4, 0, 1, 3, 3);
+        // 0 and 2 are taken, 1 is lost: one is ahead of it; then 1 comes and 3 is lost; then 3 comes
+        seed = Due.seedThatDraws(10, 9, 10, 0, 10, 9, 10, 9, 10, 9, 10, 0, 10, 9, 10, 9);
+        asTold(x, new int[] {4, 3, 1, 0, seed}, 3, 6, 0, 1, 4, 4);
         // a part that was taken before and is lost now is answered all the same
         seed = Due.seedThatDraws(10, 9, 10, 0, 10, 0, 10, 9);
         asTold(x, new int[] {1, 1, 1, 1, seed}, 2, 2, 0, 0, 1, 1);

@@ -10,6 +10,7 @@ public final class NetworksTest {
         apart();
         chainThatGreedFails();
         oneWayIsEnough();
+        keysWithout0();
         ring();
         manyOfAll();
         due.end();
@@ -103,6 +104,14 @@ public final class NetworksTest {
         disturbsAre("a key less", x, 4, 0, 1, 0, U, 0);
         x.key(2, 0);
         disturbsAre("two keys less", x, 0, 0, U, 0, U, 0);
+    }
+
+    private static void keysWithout0() {
+        MainsLetters x = new MainsLetters();
+        for (int s = 0; s < 6; s++) x.key(s, 1 + s % 5);
+        turnsAre("keys 1 to 5", x, 5, U, 0, 1, 2, 3, 4);
+        x.key(1, 0);
+        turnsAre("keys 0, 1, 3, 4, 5", x, 5, 0, 1, U, 2, 3, 4);
     }
 
     private static void ring() {

@@ -237,6 +237,8 @@ public final class WireTest {
         due.is("many(8), 0 is alone", x.many(8), 0);
         due.is("many(10)", x.many(10), 1);
 
+        eachAsTheThirdOne();
+
         MainsLetters y = new MainsLetters();
         Due.lose(y, 0, 1, 52);
         Due.disturb(y, 0, 0, 60);
@@ -246,5 +248,26 @@ public final class WireTest {
         y.noise(1, 4, 1, 1);
         due.is("one hears: not hidden", y.who(0, 3), 0);
         due.is("one hears: nor the other way", y.who(1, 3), 0);
+    }
+
+    /** One station alone hears the others, which hear none. */
+    private static void eachAsTheThirdOne() {
+        for (int ear = 0; ear < 6; ear++) {
+            MainsLetters x = new MainsLetters();
+            for (int s = 0; s < 6; s++) {
+                if (s == ear) continue;
+                Due.disturb(x, s, 0, 60);
+                Due.disturb(x, s, 1, 60);
+            }
+            for (int s = 0; s < 6; s++) {
+                int others = 63 - (1 << ear) - (1 << s);
+                due.is(ear + " hears all: who(" + s + ", 3)", x.who(s, 3), s == ear ? 0 : others);
+            }
+            due.is(ear + " hears all: many(8)", x.many(8), 10);
+            due.is(ear + " hears all: many(10)", x.many(10), 1);
+            due.is(ear + " hears all: disturbs(0)", x.disturbs(0), 0);
+            x.key(ear, 1);
+            due.is(ear + " hears all: disturbs(1)", x.disturbs(1), 1);
+        }
     }
 }
