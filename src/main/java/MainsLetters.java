@@ -279,7 +279,8 @@ public final class MainsLetters {
 
         // One place for both orders of the two, so that a loss is the same both ways.
         private static int lossAt(int a, int b, int tone) {
-            return (Math.min(a, b) * STATIONS + Math.max(a, b)) * TONES + tone;
+            int two = a < b ? a * STATIONS + b : b * STATIONS + a;
+            return two * TONES + tone;
         }
 
         private static int noiseAt(int s, int tone, int half) {
@@ -373,8 +374,8 @@ public final class MainsLetters {
 
         /** Counted by whole rounds of both halves first: on a slow wire there are thousands of symbols. */
         int symbolsFor(int a, int b, int n) {
-            int first = speedFrom(a, b, 0);
-            int second = speedFrom(a, b, 1);
+            int first = speeds[speedAt(a, b, 0)];
+            int second = speeds[speedAt(a, b, 1)];
             int round = SYMBOLS_OF_HALF * (first + second);
             if (round <= 0) return NONE;
             int rounds = (8 * n - 1) / round;
