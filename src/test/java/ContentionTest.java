@@ -336,7 +336,7 @@ public final class ContentionTest {
         int[] width = {8, 16, 32, 64};
         int seed = Due.seedThatDraws(8, 0);
         x.write(5, 4, 0, 40);
-        for (int round = 0; round < 80; round++) {
+        for (int round = 0; round < 45; round++) {
             int stage = x.ofStation(5, 5);
             int defer = x.ofStation(5, 7);
             int count = x.ofStation(5, 6);

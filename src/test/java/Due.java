@@ -17,6 +17,11 @@ final class Due {
         if (wrong <= 50) System.out.println("not so: " + what);
     }
 
+    /** What ofStation tells of a station from 1 on. */
+    void told(String name, MainsLetters x, int s, int... wants) {
+        for (int i = 0; i < wants.length; i++) is(name + ": ofStation(" + s + ", " + (i + 1) + ")", x.ofStation(s, i + 1), wants[i]);
+    }
+
     void end() {
         System.out.println(wrong == 0 ? asked + " answers are as due" : wrong + " of " + asked + " answers are not as due");
         if (wrong != 0) System.exit(1);
@@ -24,6 +29,13 @@ final class Due {
 
     static int seedBehind(int seed) {
         return (int) (1103515245L * seed + 12345L);
+    }
+
+    /** The seed whose next one this is. */
+    static int seedBefore(int seed) {
+        int inverse = 1;
+        for (int i = 0; i < 5; i++) inverse *= 2 - 1103515245 * inverse;
+        return (seed - 12345) * inverse;
     }
 
     static int drawn(int seed, int width) {
@@ -48,6 +60,12 @@ final class Due {
     /** All tones of two stations get a loss. */
     static void lose(MainsLetters x, int a, int b, int v) {
         for (int tone = 0; tone < 8; tone++) x.loss(a, b, tone, v);
+    }
+
+    /** A station hears none from now on. */
+    static void deafen(MainsLetters x, int s) {
+        disturb(x, s, 0, 60);
+        disturb(x, s, 1, 60);
     }
 
     /** All tones of a station get a noise, in one half. */

@@ -40,8 +40,12 @@ public final class FaceTest {
 
     private static void methods() {
         TreeSet<String> seen = new TreeSet<>();
+        TreeSet<String> face = namesOfTheFace();
         for (Method m : MainsLetters.class.getDeclaredMethods()) {
-            if (Modifier.isPrivate(m.getModifiers())) continue;
+            if (Modifier.isPrivate(m.getModifiers())) {
+                due.holds(m + " bears no name of the face", !face.contains(m.getName()));
+                continue;
+            }
             boolean plain = isPublic(m.getModifiers()) && !Modifier.isStatic(m.getModifiers()) && m.getReturnType() == int.class;
             boolean ints = Arrays.stream(m.getParameterTypes()).allMatch(type -> type == int.class);
             due.holds(m + " is public and of ints", plain && ints);
@@ -66,8 +70,12 @@ public final class FaceTest {
         due.holds("one public constructor without arguments", all.length == 1 && isPublic(all[0].getModifiers()) && all[0].getParameterCount() == 0);
     }
 
+    private static TreeSet<String> namesOfTheFace() {
+        return Arrays.stream(METHODS).map(m -> m.split(" ")[0]).collect(Collectors.toCollection(TreeSet::new));
+    }
+
     private static void classesInside() {
-        TreeSet<String> face = Arrays.stream(METHODS).map(m -> m.split(" ")[0]).collect(Collectors.toCollection(TreeSet::new));
+        TreeSet<String> face = namesOfTheFace();
         Class<?>[] inside = MainsLetters.class.getDeclaredClasses();
         due.holds("twelve classes at most", inside.length < 12);
         for (Class<?> c : inside) {
@@ -92,6 +100,18 @@ public final class FaceTest {
         for (String word : FORBIDDEN) {
             Matcher found = Pattern.compile(word).matcher(code);
             due.holds("the source has no " + word, !found.find());
+        }
+        shortMethods(text.split("\n"));
+    }
+
+    /** A method begins at a line with two or one indents that ends in "{", and ends at the next "}" that stands as deep. */
+    private static void shortMethods(String[] lines) {
+        for (int i = 0; i < lines.length; i++) {
+            Matcher head = Pattern.compile("^( {4}| {8})\\w[^;=]*\\) \\{$").matcher(lines[i]);
+            if (!head.find()) continue;
+            int end = i;
+            while (end < lines.length && !lines[end].equals(head.group(1) + "}")) end++;
+            due.holds(lines[i].trim() + " has sixty lines at most", end - i < 60);
         }
     }
 }
